@@ -11,7 +11,7 @@ public final class ReplicaHeap {
     private static final int FLIP_UNITS = 16;
     private static final int MOST_CALLS = 512;
 
-    // Kinds of cells, numbered as the answers of cell are.
+    // Kinds of cells, numbered as the answers of cell are; a reference to space s is REFERENCE + s.
     private static final int NUMBER = 0;
     private static final int REFERENCE = 1;
     private static final int HEADER = 3;

@@ -2,6 +2,7 @@
 public final class Promise02AllocTest {
     public static void main(String[] args) {
         laysObjectsOneBehindTheOther();
+        laysZerosWhereOtherObjectsWere();
         beginsBeyondHalfAlone();
         worksForTheQuantum();
         bringsTheNewObjectOverAFlip();
@@ -27,6 +28,24 @@ public final class Promise02AllocTest {
             Check.due("number of a new field", heap.cell(0, place, 1), 0);
         }
         Check.counts("two objects", heap, 0, 0, 11, 0, 0, 0, 0, 0, 0, 0, 0, 2, 64);
+    }
+
+    private static void laysZerosWhereOtherObjectsWere() {
+        ReplicaHeap heap = new ReplicaHeap(16, 4);
+        heap.alloc(0, 7);
+        for (int field = 0; field < 7; field++) {
+            heap.put(0, field, 0);
+        }
+        heap.number(0, 0);
+        heap.collect(-1);
+        heap.collect(-1);
+        Check.due("the first space again", heap.count(0), 0);
+        heap.alloc(1, 6);
+        Check.due("at its beginning", heap.look(1, 1), 0);
+        for (int field = 0; field < 6; field++) {
+            Check.due("kind of a field laid anew", heap.field(1, field, 0), 0);
+            Check.due("number of a field laid anew", heap.field(1, field, 1), 0);
+        }
     }
 
     private static void beginsBeyondHalfAlone() {
