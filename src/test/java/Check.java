@@ -7,7 +7,11 @@ final class Check {
     private static final String[] NAMES = {
         "nothing", "IllegalArgumentException", "IllegalStateException", "IndexOutOfBoundsException"
     };
+    private static final int[] EXTREMES = {
+        Integer.MIN_VALUE, Integer.MIN_VALUE + 1, Integer.MAX_VALUE - 1, Integer.MAX_VALUE
+    };
     private static int wrong = 0;
+    private static String sentence = "";
 
     private Check() {
     }
@@ -16,10 +20,42 @@ final class Check {
         void run();
     }
 
+    interface CallWith {
+        void run(int argument);
+    }
+
+    interface Answer {
+        boolean run();
+    }
+
+    /** One sentence of the document and the test of its own; what fails in it by itself does not hide the next one. */
+    static void sentence(String text, Call test) {
+        sentence = "[" + text + "] ";
+        try {
+            test.run();
+        } catch (RuntimeException e) {
+            tell("failed by itself: " + e);
+        }
+        sentence = "";
+    }
+
+    private static void tell(String text) {
+        wrong++;
+        System.out.println(sentence + text);
+    }
+
+    /** The nearest values outside of least .. most, then those where int arithmetic would wrap around. */
+    static void eachOutside(int least, int most, CallWith test) {
+        test.run(least - 1);
+        test.run(most + 1);
+        for (int extreme : EXTREMES) {
+            test.run(extreme);
+        }
+    }
+
     static void due(String call, long got, long want) {
         if (got != want) {
-            wrong++;
-            System.out.println(call + " answered " + got + ", due is " + want);
+            tell(call + " answered " + got + ", due is " + want);
         }
     }
 
@@ -30,20 +66,27 @@ final class Check {
     /** The call throws this very exception, and all that can be seen of the heap is as it was. */
     static void refused(String call, ReplicaHeap heap, int exception, Call run) {
         String before = Picture.of(heap);
-        int thrown = 0;
+        threw(call, exception, run);
+        unchanged(call, heap, before);
+    }
+
+    /** The call throws this very exception, no kind of it and nothing else. */
+    static void threw(String call, int exception, Call run) {
+        String thrown = NAMES[0];
         try {
             run.run();
-        } catch (IllegalArgumentException e) {
-            thrown = IAE;
-        } catch (IllegalStateException e) {
-            thrown = ISE;
-        } catch (IndexOutOfBoundsException e) {
-            thrown = IOOBE;
+        } catch (RuntimeException e) {
+            thrown = e.getClass().getSimpleName();
         }
-        if (thrown != exception) {
-            wrong++;
-            System.out.println(call + " threw " + NAMES[thrown] + ", due is " + NAMES[exception]);
+        if (!thrown.equals(NAMES[exception])) {
+            tell(call + " threw " + thrown + ", due is " + NAMES[exception]);
         }
+    }
+
+    /** The call answers false, and all that can be seen of the heap is as it was. */
+    static void denied(String call, ReplicaHeap heap, Answer run) {
+        String before = Picture.of(heap);
+        due(call, run.run(), false);
         unchanged(call, heap, before);
     }
 
@@ -53,8 +96,7 @@ final class Check {
 
     static void same(String what, String got, String want) {
         if (!got.equals(want)) {
-            wrong++;
-            System.out.println(what + "\n--- got\n" + got + "\n--- due\n" + want);
+            tell(what + "\n--- got\n" + got + "\n--- due\n" + want);
         }
     }
 

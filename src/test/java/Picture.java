@@ -1,4 +1,4 @@
-/** All that can be seen of a heap, as a text. */
+/** All that can be seen of a heap, as a text; looking changes nothing, so a test may look as often as it likes. */
 final class Picture {
     private Picture() {
     }
